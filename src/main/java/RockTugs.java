@@ -15,10 +15,9 @@ public final class RockTugs {
     private static final int EDGE = 9999999, MOST_TONS = 99999, MOST_SPIN = 99, MOST_STOCK = 9999, MOST_WORTH = 999;
     private static final int MOST_FUEL = 999, LAST_DAY = 3000, LAST_OPENING = 999;
 
-    /** KINDS of ROCKS and of TUGS: the third is under the second, and all are of kind 0. */
-    private static final int ANY = 0, SECOND = 2, THIRD = 3;
-    private static final int ICY = 1, ORE = SECOND, STATION = THIRD;
-    private static final int HAULER = 1, DIGGER = SECOND, MINT = THIRD;
+    /** KINDS of ROCKS, then of TUGS; both go up to the same number. */
+    private static final int ICY = 1, ORE = 2, STATION = 3, LAST_KIND = 3;
+    private static final int HAULER = 1, DIGGER = 2, MINT = 3;
 
     private static final int WATER = 0, METAL = 1, WORTH = 2;
     private static final int LIGHT = 0, GROWTH = 1, RATE = 2;
@@ -30,7 +29,8 @@ public final class RockTugs {
     private static final int OP = 0, ARG = 1;
 
     /** The words of S, each in as many columns: a word's number is its operation in the code. */
-    private static final String WORDS = "aim   burn  dock  free  dig   make  give  still shed  claim wait  until if    while else  ";
+    private static final String WORDS =
+            "aim   burn  dock  free  dig   make  give  still shed  claim wait  until if    while else  ";
     private static final int WORD_WIDTH = 6, WORD_COUNT = 15;
     private static final int AIM = 0, BURN = 1, DOCK = 2, FREE = 3, DIG = 4, MAKE = 5, GIVE = 6, STILL = 7, SHED = 8;
     private static final int CLAIM = 9, WAIT = 10, UNTIL = 11, IF = 12, WHILE = 13, ELSE = 14;
@@ -49,7 +49,7 @@ public final class RockTugs {
     private final short[][] sheets = new short[SHEETS][MOST_PLACES];
     /** How many places each SHEET has; below 0: it is MISSING. */
     private final int[] places = {-1, -1};
-    private final Compiler compiler = new Compiler();
+    private final Parser parser = new Parser();
     private final Runner runner = new Runner();
     private final Seeker seeker = new Seeker();
     private final Body oneGhost = new Body();
@@ -68,7 +68,8 @@ public final class RockTugs {
     }
 
     public int rock(int kind, int x, int y, int tons, int spin) {
-        if (!within(kind, 0, THIRD) || !isPlace(x, y) || !within(tons, 1, MOST_TONS) || !within(spin, -MOST_SPIN, MOST_SPIN)) return BAD;
+        if (!within(kind, 0, LAST_KIND) || !isPlace(x, y)) return BAD;
+        if (!within(tons, 1, MOST_TONS) || !within(spin, -MOST_SPIN, MOST_SPIN)) return BAD;
         if (now.rocks >= MOST_ROCKS) return FULL;
         Rock made = now.rock[now.rocks];
         made.begin(kind, tons, spin);
@@ -127,7 +128,7 @@ public final class RockTugs {
     }
 
     public int isOf(int rock, int kind) {
-        if (!now.isRock(rock) || !within(kind, 0, THIRD)) return BAD;
+        if (!now.isRock(rock) || !within(kind, 0, LAST_KIND)) return BAD;
         return isUnder(now.rock[rock].kind, kind) ? 1 : 0;
     }
 
@@ -148,7 +149,7 @@ public final class RockTugs {
     // ---- tugs, programs, orders
 
     public int tug(int kind, int x, int y, int fuel) {
-        if (!within(kind, 0, THIRD) || !isPlace(x, y) || !within(fuel, 0, MOST_FUEL)) return BAD;
+        if (!within(kind, 0, LAST_KIND) || !isPlace(x, y) || !within(fuel, 0, MOST_FUEL)) return BAD;
         if (now.tugs >= MOST_TUGS) return FULL;
         Tug made = now.tug[now.tugs];
         made.begin(kind, fuel);
@@ -157,7 +158,7 @@ public final class RockTugs {
     }
 
     public int is(int tug, int kind) {
-        if (!now.isTug(tug) || !within(kind, 0, THIRD)) return BAD;
+        if (!now.isTug(tug) || !within(kind, 0, LAST_KIND)) return BAD;
         return isUnder(now.tug[tug].kind, kind) ? 1 : 0;
     }
 
@@ -218,7 +219,7 @@ public final class RockTugs {
         taped = 0;
         if (!within(program, 0, PROGRAMS - 1)) return BAD;
         now.stopAll(program);
-        return compiler.compile(tape, length, now.code[program]);
+        return parser.parse(tape, length, now.code[program]);
     }
 
     public int send(int tug, int program) {
@@ -451,8 +452,9 @@ public final class RockTugs {
         return v > most ? most : (int) v;
     }
 
+    /** With ROCKS as with TUGS kind 3 is under kind 2, and all are of kind 0. */
     private static boolean isUnder(int kind, int asked) {
-        return asked == ANY || kind == asked || kind == THIRD && asked == SECOND;
+        return asked == 0 || kind == asked || kind == 3 && asked == 2;
     }
 
     private static boolean isSheet(int s) {
@@ -925,7 +927,7 @@ public final class RockTugs {
     }
 
     /** Makes the code of a PROGRAM from THE TAPE. */
-    private static final class Compiler {
+    private static final class Parser {
         private static final int AT_END = 0, LETTERS = 1, DIGITS = 2, SIGN = 3, WRONG = 4;
         private static final int TEST_LEVEL = 2, PART_LEVEL = 5;
         private static final int MOST_BRACES = 4, MOST_BRACKETS = 8, MOST_SIGNS = 8;
@@ -939,7 +941,7 @@ public final class RockTugs {
         private int many;
 
         /** How many S it has, or -100 less the place of its fault, and no code then. */
-        int compile(int[] text, int length, Rows code) {
+        int parse(int[] text, int length, Rows code) {
             this.text = text;
             this.length = Math.min(length, text.length);
             this.code = code;
@@ -1157,7 +1159,8 @@ public final class RockTugs {
 
     /** Part (b) of a DAY: a TUG goes through its PROGRAM. */
     private static final class Runner {
-        private static final int MOST_STEPS = 30, MOST_BURN = 9, DOCK_FAR = 100, DOCK_SPEED = 50, DOCK_SPIN = 20, MOST_WHEEL = 50;
+        private static final int MOST_STEPS = 30, MOST_BURN = 9, MOST_WHEEL = 50;
+        private static final int DOCK_FAR = 100, DOCK_SPEED = 50, DOCK_SPIN = 20;
 
         /** Values of the E that is worked out; no E has more rows than THE TAPE has bytes. */
         private final int[] stack = new int[MOST_TAPE];
@@ -1211,7 +1214,9 @@ public final class RockTugs {
 
         private static int behindJumps(Rows code, int step) {
             int at = step;
-            for (int i = 0; i < MOST_TAPE && at < code.rows() && code.at(at, OP) == JUMP; i++) at = code.at(at, ARG);
+            for (int i = 0; i < MOST_TAPE && at < code.rows() && code.at(at, OP) == JUMP; i++) {
+                at = code.at(at, ARG);
+            }
             return at;
         }
 
@@ -1337,7 +1342,8 @@ public final class RockTugs {
             if (!world.isRock(tug.aim)) return false;
             Rock goal = world.rock[tug.aim];
             boolean near = tug.free.farFrom(goal.body) <= DOCK_FAR;
-            boolean slow = within(goal.body.u - tug.free.u, -DOCK_SPEED, DOCK_SPEED) && within(goal.body.v - tug.free.v, -DOCK_SPEED, DOCK_SPEED);
+            boolean slow = within(goal.body.u - tug.free.u, -DOCK_SPEED, DOCK_SPEED)
+                    && within(goal.body.v - tug.free.v, -DOCK_SPEED, DOCK_SPEED);
             boolean calm = within(goal.spin, -DOCK_SPIN, DOCK_SPIN);
             if (!near || !slow || !calm || !world.hasBerth(tug.aim)) return false;
             tug.dock = tug.aim;
@@ -1355,7 +1361,8 @@ public final class RockTugs {
             int left = tug.hold[what];
             for (int i = 0; i < world.contracts && left > 0; i++) {
                 Contract asks = world.contract[i];
-                if (asks.rock == tug.dock && asks.what == what && asks.isOpen(world.today)) left -= asks.take(left, world.today);
+                boolean fits = asks.rock == tug.dock && asks.what == what;
+                if (fits && asks.isOpen(world.today)) left -= asks.take(left, world.today);
             }
             int stored = Math.min(left, MOST_STOCK - at.stock[what]);
             at.stock[what] += stored;

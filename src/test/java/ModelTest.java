@@ -38,6 +38,7 @@ public final class ModelTest {
         for (long seed = first; seed < first + runs && bad < 3; seed++) {
             ModelTest one = new ModelTest(seed);
             if (seed % 4 == 0) one.travel();
+            else if (seed % 16 == 1) one.beWild();
             else one.live();
             answers += one.calls;
             if (!one.wrong) continue;
@@ -54,6 +55,23 @@ public final class ModelTest {
         begin();
         int many = 100 + random.nextInt(200);
         for (int i = 0; i < many && !wrong; i++) any(NAMES[random.nextInt(NAMES.length)]);
+        look();
+    }
+
+    /** Arguments from the ends of all ranges, of ints, too: no call throws, whatever it is given. */
+    private void beWild() {
+        begin();
+        int[] ends = {Integer.MIN_VALUE, Integer.MIN_VALUE + 1, Integer.MAX_VALUE, -EDGE - 1, -EDGE, EDGE, EDGE + 1, 99999, 100000, -1, 0, 0, 1, 2, 3, 7, 8, 10, 13,
+            30, 31, 40, 60, 120, 999, 1000, 2000, 3000, 20000, Model.NONE, 65536};
+        List<String> names = new ArrayList<>(FACE.keySet());
+        names.removeIf(name -> java.lang.reflect.Modifier.isPrivate(FACE.get(name).getModifiers()));
+        names.sort(null);
+        for (int i = 0; i < 300 && !wrong; i++) {
+            String name = names.get(random.nextInt(names.size()));
+            int[] a = new int[FACE.get(name).getParameterCount()];
+            for (int j = 0; j < a.length; j++) a[j] = ends[random.nextInt(ends.length)];
+            call(name, a);
+        }
         look();
     }
 
