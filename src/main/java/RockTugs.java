@@ -1420,9 +1420,10 @@ public final class RockTugs {
                 Window next = world.window[i];
                 if (next.from != rock || (put >> i & 1) != 0) continue;
                 int left = Math.max(day, next.open);
-                int rest = fuelWaited(rock, fuel, left - day) - next.fuel;
                 int ends = left + next.days;
-                if (left > next.close || rest < 0 || ends > end) continue;
+                if (left > next.close || ends > end) continue;
+                int rest = fuelWaited(rock, fuel, left - day) - next.fuel;
+                if (rest < 0) continue;
                 if (triesLeft < 1) {
                     spent = true;
                     return;

@@ -103,6 +103,12 @@ public final class ContractTest {
         due.is("nothing is left for the STATION", x.told(2, 7), 0);
         x.run(30);
         due.is("met stays", x.about(2, 1), 22);
+        RockTugs last = laden();
+        last.contract(0, 39, 2, 3000, 4);
+        last.contract(0, 1, 2, 3000, 8);
+        Due.order(last, 0, "give");
+        last.run(1);
+        due.is("to the last ton", last.paid(), 12);
         RockTugs y = laden();
         y.contract(0, 30, 2, 3000, 4);
         Due.order(y, 0, "give");

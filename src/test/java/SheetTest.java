@@ -8,6 +8,10 @@ public final class SheetTest {
         images();
         imagesOfNothing();
         imageLeavesOut();
+        imageOfContracts();
+        imageOfAll();
+        imageOfWindows();
+        imageOfPrograms();
         sheets();
         copies();
         counts();
@@ -103,27 +107,100 @@ public final class SheetTest {
         RockTugs x = new RockTugs();
         due.is("none", x.back(), NO);
         due.is("keep", x.keep(), 0);
+        x.rock(2, 5, 5, 7, 5);
         x.rock(1, 5, 5, 5, 5);
         x.stock(0, 0, 5);
-        x.weigh(0, 5, 5);
-        x.tug(1, 5, 5, 5);
+        x.stock(0, 1, 50);
+        x.stock(0, 2, 5);
+        x.stock(1, 0, 50);
+        x.speed(0, 5, 5);
+        x.weigh(0, 5, 9);
+        x.tug(3, 5, 5, 50);
         x.moor(0, 0);
-        Due.order(x, 0, "dig claim wait wait wait wait");
-        x.run(4);
+        Due.order(x, 0, "aim 3 still burn 1,1 claim dig wait");
+        x.run(6);
         due.is("OWNER", x.told(0, 10), 0);
-        due.is("KNOWN", x.known(0, 5), 3);
+        due.is("REST", x.told(0, 11), 6);
+        due.is("KNOWN", x.known(0, 5), 5);
+        due.is("METAL", x.has(0, 7), 20);
+        due.is("burnt", x.has(0, 12), 3);
+        due.is("WHEEL", x.has(0, 8), 5);
+        due.is("AIMS", x.has(0, 11), 3);
+        x.tug(3, 5, 5, 50);
+        x.moor(1, 1);
+        Due.order(x, 1, "dig make burn 1,0 free");
+        x.run(4);
+        due.is("made", x.has(1, 13), 5);
+        x.dark(0, 1);
+        x.dark(1, 1);
         due.is("back", x.back(), 0);
         due.is("no ROCK", x.count(1), 0);
         due.is("no PROGRAM", x.count(3), 0);
         // what is made now has nothing of what was in its place
-        x.rock(0, 1, 1, 1, 1);
-        x.tug(0, 1, 1, 1);
         int[] rock = {0, 1, 1, 0, 0, 1, 1, 0, 0, 0, NONE, 0, 0};
-        for (int what = 0; what < 13; what++) due.is("told " + what, x.told(0, what), rock[what]);
         int[] tug = {0, 1, 1, 0, 0, 1, 0, 0, 0, NONE, NONE, 0, 0, 0};
-        for (int what = 0; what < 14; what++) due.is("has " + what, x.has(0, what), tug[what]);
-        due.is("nothing KNOWN", x.known(0, 5), NONE);
-        due.is("nothing LEARNT", x.learnt(0, 1), 99999);
+        for (int i = 0; i < 2; i++) {
+            x.rock(0, 1, 1, 1, 1);
+            x.tug(0, 1, 1, 1);
+            for (int what = 0; what < 13; what++) due.is("told " + what, x.told(i, what), rock[what]);
+            for (int what = 0; what < 14; what++) due.is("has " + what, x.has(i, what), tug[what]);
+            due.is("nothing KNOWN", x.known(i, 5), NONE);
+            due.is("nothing LEARNT", x.learnt(i, 0), 1);
+            due.is("nothing LEARNT", x.learnt(i, 1), 99999);
+            due.is("not DARK", x.dark(i, 0), 0);
+        }
+    }
+
+    private static void imageOfContracts() {
+        RockTugs x = new RockTugs();
+        x.rock(1, 0, 0, 1, 0);
+        x.rock(3, 0, 0, 1, 0);
+        x.stock(0, 0, 99);
+        x.tug(2, 0, 0, 9);
+        x.moor(0, 0);
+        x.contract(0, 27, 1, 30, 1);
+        x.contract(0, 4, 1, 30, 2);
+        Due.order(x, 0, "dig free aim 1 dock give free aim 0 dock dig free aim 1 dock give");
+        x.run(4);
+        due.is("keep", x.keep(), 5);
+        due.is("tons", x.about(0, 0), 20);
+        due.is("tons", x.about(1, 0), 0);
+        x.contract(0, 30, 1, 30, 4);
+        x.run(20);
+        int[] got = {27, 4, 9};
+        for (int i = 0; i < 3; i++) due.is("what it lacks, and no more", x.about(i, 0), got[i]);
+        due.is("MET", x.about(0, 1), 10);
+        due.is("paid", x.paid(), 3);
+        x.back();
+        due.is("tons as kept", x.about(0, 0), 20);
+        due.is("tons as kept", x.about(1, 0), 0);
+        due.is("not MET", x.about(0, 1), NONE);
+        due.is("paid", x.paid(), 0);
+        due.is("a new one", x.contract(1, 5, 1, 30, 8), 2);
+        due.is("a new one has nothing", x.about(2, 0), 0);
+        x.run(20);
+        due.is("again", x.about(0, 0), 27);
+        due.is("again", x.about(1, 1), 10);
+        due.is("paid", x.paid(), 3);
+    }
+
+    /** As many of all as there may be. */
+    private static void imageOfAll() {
+        RockTugs x = new RockTugs();
+        for (int i = 0; i < 3; i++) x.sun(1000 * i, 3000, 9);
+        for (int i = 0; i < 8; i++) x.rock(3, 300 * i, 0, 9, 9);
+        for (int i = 0; i < 4; i++) x.tug(i, 300 * i, 0, 9);
+        for (int i = 0; i < 8; i++) x.contract(0, 9, i, 99, 9);
+        for (int i = 0; i < 16; i++) x.window(i % 8, (i + 1) % 8, 0, 99, 0, 1);
+        for (int i = 0; i < 4; i++) Due.program(x, i, "wait ".repeat(24));
+        for (int i = 0; i < 30; i++) x.send(i % 4, i % 4);
+        x.keep();
+        long kept = all(x);
+        x.run(9);
+        x.back();
+        due.is("as it was", all(x), kept);
+        int[] most = {3, 8, 4, 4, 30, 0, 0, 8, 16, 0, 0, 0};
+        for (int what = 0; what < 12; what++) due.is("count " + what, x.count(what), most[what]);
     }
 
     private static void imageLeavesOut() {
@@ -143,6 +220,55 @@ public final class SheetTest {
         due.is("THE TAPE stays", x.count(10), 24);
     }
 
+    /** WINDOWS that came later stand in the place of those that were kept. */
+    private static void imageOfWindows() {
+        RockTugs x = new RockTugs();
+        for (int i = 0; i < 4; i++) {
+            x.rock(0, 0, 0, 1, 0);
+            x.stock(i, 2, 1 << i);
+        }
+        x.window(0, 1, 3, 5, 2, 4);
+        x.window(1, 2, 8, 9, 3, 5);
+        x.tour(0, 0, 9, 99, 9);
+        x.keep();
+        x.shut();
+        x.window(3, 2, 1, 1, 1, 1);
+        x.window(2, 1, 1, 2, 1, 1);
+        due.is("another TOUR", x.tour(3, 0, 9, 99, 9), 6);
+        x.back();
+        due.is("WINDOWS", x.count(8), 2);
+        int[] rows = {0, 3, 7, 7, 1, 8, 13, 4};
+        for (int v : rows) x.tell(v);
+        due.is("the TOUR that was kept", x.check(), 0);
+        due.is("found again", x.tour(0, 0, 9, 99, 9), 6);
+        for (int v : rows) x.tell(v);
+        due.is("the same", x.check(), 0);
+        due.is("none from there", x.tour(3, 0, 9, 99, 9), 0);
+        due.is("in time", x.tour(0, 5, 5, 14, 9), 6);
+        due.is("too late", x.tour(0, 6, 5, 14, 9), 0);
+        due.is("too little FUEL", x.tour(0, 5, 4, 14, 9), 2);
+    }
+
+    /** A TUG in the midst of its PROGRAM, which is written anew, goes on in the one that was kept. */
+    private static void imageOfPrograms() {
+        RockTugs x = new RockTugs();
+        x.tug(0, 0, 0, 99);
+        Due.order(x, 0, "aim 7 burn 1,0 burn 2,0 burn 3,0");
+        x.run(1);
+        due.is("keep", x.keep(), 2);
+        Due.program(x, 0, "wait");
+        x.send(0, 0);
+        x.run(3);
+        x.back();
+        due.is("FUEL", x.has(0, 5), 98);
+        due.is("PROGRAM", x.has(0, 10), 0);
+        due.is("ORDERS", x.count(4), 0);
+        x.run(1);
+        due.is("goes on there", x.has(0, 5), 96);
+        x.run(1);
+        due.is("and on", x.has(0, 5), 93);
+    }
+
     private static void sheets() {
         RockTugs x = new RockTugs();
         due.is("sheet", x.sheet(2, 1), BAD);
@@ -160,8 +286,10 @@ public final class SheetTest {
         due.is("as a short", x.mark(0, 39, 65535), -32768);
         due.is("as a short", x.mark(0, 39, 65536 + 5), -1);
         due.is("as a short", x.mark(0, 39, 5), 5);
+        x.mark(0, 0, 5);
         due.is("anew", x.sheet(0, 40), 40);
         due.is("all 0", x.mark(0, 39, 9), 0);
+        due.is("all 0", x.mark(0, 0, 9), 0);
         due.is("none", x.sheet(0, 0), 0);
         due.is("no place", x.mark(0, 0, 1), INDEX);
         due.is("SIZE changes nothing", x.sheet(0, -5), SIZE);
@@ -178,6 +306,10 @@ public final class SheetTest {
         due.is("sheet", x.copy(0, 0, -1, 0, 1), BAD);
         due.is("MISSING", x.copy(0, 0, 1, 0, 1), NOTHING);
         due.is("MISSING", x.copy(1, 9, 0, 0, -1), NOTHING);
+        x.sheet(1, 0);
+        due.is("without places", x.copy(0, 0, 1, 0, 1), INDEX);
+        due.is("without places", x.copy(1, 0, 0, 0, 1), INDEX);
+        due.is("without places, none", x.copy(1, 0, 1, 0, 0), 0);
         x.sheet(1, 3);
         due.is("many", x.copy(0, 0, 1, 0, -1), INDEX);
         due.is("place", x.copy(0, -1, 1, 0, 1), INDEX);

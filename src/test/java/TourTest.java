@@ -67,6 +67,7 @@ public final class TourTest {
         due.is("none yet", x.check(), NO);
         due.is("leg", x.leg(0), NONE);
         due.is("without WINDOWS", x.tour(0, 999, 999, 2000, 20000), 0);
+        due.is("one TRY", x.tour(0, 0, 0, 0, 1), 0);
         due.is("leg", x.leg(0), NONE);
         due.is("leg", x.leg(-1), BAD);
         due.is("check", x.check(), 0);

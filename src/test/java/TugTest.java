@@ -159,6 +159,17 @@ public final class TugTest {
         due.is("SPIN 21", docked(0, 0, 0, 0, 21), NONE);
         due.is("SPIN -20", docked(0, 0, 0, 0, -20), 0);
         due.is("SPIN -21", docked(0, 0, 0, 0, -21), NONE);
+        RockTugs x = new RockTugs();
+        x.tug(0, 0, 0, 99);
+        Due.order(x, 0, "burn 9,-9 dock");
+        x.run(1);
+        x.rock(0, 90, -90, 5, 0);
+        x.speed(0, 39, -140);
+        x.run(1);
+        due.is("51 slower", x.has(0, 9), NONE);
+        x.speed(0, 140, -40);
+        x.run(1);
+        due.is("both by 50", x.has(0, 9), 0);
     }
 
     private static void dockRefused() {
@@ -185,6 +196,9 @@ public final class TugTest {
         x.run(1);
         due.is("and the next one is next", x.has(0, 5), 8);
         due.is("it still waits", x.has(1, 10), 0);
+        due.is("and burns nothing", x.has(1, 5), 9);
+        x.run(9);
+        due.is("it still waits", x.has(1, 5), 9);
         x.send(1, 2);
         x.run(5);
         due.is("no such ROCK", x.has(1, 9), NONE);
@@ -330,6 +344,38 @@ public final class TugTest {
         Due.order(z, 0, "still");
         z.run(1);
         due.is("without FUEL nothing", z.told(0, 6), 9);
+        RockTugs one = new RockTugs();
+        one.rock(0, 0, 0, 5, 9);
+        one.tug(0, 0, 0, 1);
+        one.moor(0, 0);
+        Due.order(one, 0, "still still");
+        one.run(2);
+        due.is("with a FUEL of 1 once", one.told(0, 6), 4);
+        due.is("FUEL", one.has(0, 5), 0);
+        wheelFull(1);
+        wheelFull(-1);
+    }
+
+    /** The WHEEL has 48 or -48 when 5 more would be too many. */
+    private static void wheelFull(int sign) {
+        RockTugs x = new RockTugs();
+        x.rock(0, 0, 0, 5, 3 * sign);
+        x.rock(0, 0, 0, 5, 99 * sign);
+        x.tug(0, 0, 0, 99);
+        x.moor(0, 0);
+        Due.order(x, 0, "still free");
+        x.run(2);
+        x.moor(0, 1);
+        Due.order(x, 0, "while 1{still}");
+        x.run(9);
+        due.is("WHEEL", x.has(0, 8), 48 * sign);
+        x.run(1);
+        due.is("as far as it goes", x.has(0, 8), 50 * sign);
+        due.is("SPIN", x.told(1, 6), 52 * sign);
+        due.is("FUEL", x.has(0, 5), 88);
+        x.run(3);
+        due.is("then nothing", x.has(0, 5), 88);
+        due.is("SPIN", x.told(1, 6), 52 * sign);
     }
 
     private static void shed() {
