@@ -1,6 +1,7 @@
 /** Holds answers against those that are due, and counts what is wrong. */
 final class Due {
     private final String test;
+    private String sentence = "";
     private int asked;
     private int wrong;
 
@@ -8,11 +9,16 @@ final class Due {
         this.test = test;
     }
 
+    /** The sentence of the document that the next answers hold to (DocTest looks whether it stands there). */
+    void says(String sentence) {
+        this.sentence = " [" + sentence + "]";
+    }
+
     void is(String call, long got, long want) {
         asked++;
         if (got == want) return;
         wrong++;
-        System.out.println(test + ": " + call + " answered " + got + ", due is " + want);
+        System.out.println(test + ": " + call + " answered " + got + ", due is " + want + sentence);
     }
 
     /** Prints the sum and ends with 1 if an answer was wrong. */
