@@ -8,12 +8,14 @@ public final class ActEdgeTest {
 
     public static void main(String[] args) {
         tugAtFirst();
+        hasOfATug();
         byNumber();
         oneADay();
         thirty();
         thirtyInALoop();
         thirtyAtTheEnd();
         burnEnds();
+        burnFree();
         burnCost();
         burnDocked();
         restOfARock();
@@ -63,6 +65,38 @@ public final class ActEdgeTest {
         x.speed(0, -1, -2);
         due.is("as its ROCK", x.has(3, 3), -1);
         due.is("as its ROCK", x.has(3, 4), -2);
+    }
+
+    private static void hasOfATug() {
+        due.says("Of a TUG: what 0 KIND, 1 x, 2 y, 3 u, 4 v, 5 FUEL, 6 WATER, 7 METAL, 8 WHEEL, 9 the ROCK at which it is DOCKED (NONE), 10 its PROGRAM (NONE), 11 the ROCK at which it AIMS (a number, whether there is one or not), 12 FUEL that it burnt (by burn and still), 13 that it made. BAD.");
+        RockTugs x = new RockTugs();
+        x.rock(1, 0, 0, 1, -4);
+        x.rock(2, 0, 0, 1, 0);
+        x.stock(0, 0, 11);
+        x.stock(1, 1, 3);
+        x.tug(0, 0, 0, 0);
+        x.tug(3, 0, 0, 100);
+        Due.program(x, 3, "until k dig make still free until k dig burn 3,-4 aim 99999 until 0");
+        x.send(1, 3);
+        x.run(2);
+        due.is("AIMS at first", x.has(1, 11), 0);
+        due.is("PROGRAM", x.has(1, 10), 3);
+        due.is("not DOCKED", x.has(1, 9), NONE);
+        x.moor(1, 0);
+        x.run(4);
+        x.moor(1, 1);
+        x.run(3);
+        x.speed(1, 21, -22);
+        x.run(1);
+        int[] want = {3, x.told(1, 1), x.told(1, 2), 21, -22, 97, 6, 3, -4, 1, 3, 99999, 8, 5};
+        for (int what = 0; what < want.length; what++) due.is("has " + what, x.has(1, what), want[what]);
+        due.is("what -1", x.has(1, -1), RockTugs.BAD);
+        due.is("what 14", x.has(1, 14), RockTugs.BAD);
+        due.is("the other one has no PROGRAM", x.has(0, 10), NONE);
+        due.says("a WHEEL of SPIN (0 at first).");
+        due.is("0 at first", x.has(0, 8), 0);
+        due.says("It may be DARK.");
+        for (int i = 0; i < 2; i++) due.is("not at first", x.dark(i, 1), 0);
     }
 
     /** All four begin on the same DAY. */
@@ -235,6 +269,26 @@ public final class ActEdgeTest {
         y.run(1);
         due.is("the least int", y.has(0, 3), -90);
         due.is("the greatest int", y.has(0, 4), 90);
+    }
+
+    private static void burnFree() {
+        due.says("FREE: its SPEED gets 10 p, 10 q more.");
+        RockTugs x = four("burn 3,-4 burn-1,0 burn 0,9");
+        int[][] want = {{30, -40}, {20, -40}, {20, 50}};
+        for (int[] speed : want) {
+            x.run(1);
+            due.is("u", x.has(0, 3), speed[0]);
+            due.is("v", x.has(0, 4), speed[1]);
+        }
+        due.is("x", x.has(0, 1), 70);
+        due.is("y", x.has(0, 2), -30);
+        due.says("wait: nothing.");
+        RockTugs waits = four("wait wait aim 7");
+        waits.run(2);
+        due.is("it takes the DAY", waits.has(0, 11), 0);
+        due.is("nothing", waits.has(0, 1) + waits.has(0, 3) + waits.has(0, 12), 0);
+        waits.run(1);
+        due.is("then the next one", waits.has(0, 11), 7);
     }
 
     private static void burnCost() {

@@ -27,7 +27,7 @@ public final class RefusalEdgeTest {
 
     /** Of both BAD is answered, as it stands first. */
     private static void fullSkies() {
-        due.says("of several the one that stands first with it, and changes nothing");
+        due.says("A call that is refused answers one of BAD, NO, FULL, SPENT, or a FINDING, of several the one that stands first with it, and changes nothing (but the tape and the numbers that wait, where told).");
         edges.refused(FULL, Skies::full, "sun", 0, 0, 0);
         edges.refused(BAD, Skies::full, "sun", 0, 0, 1000);
         edges.refused(BAD, Skies::full, "sun", Skies.EDGE + 1, 0, 0);
@@ -59,12 +59,14 @@ public final class RefusalEdgeTest {
         for (int i = 0; i < 4; i++) due.is("tug", x.tug(i, i, i, 0), i);
         due.is("a fifth tug", x.tug(0, 0, 0, 0), FULL);
         due.is("TUGS", x.count(2), 4);
-        due.says("CONTRACTS, 8 at most");
+        due.says("One more CONTRACT: its number.");
         for (int i = 0; i < 8; i++) due.is("contract", x.contract(0, 1, i, 0, 0), i);
+        due.says("CONTRACTS, 8 at most");
         due.is("a ninth contract", x.contract(0, 1, 0, 0, 0), FULL);
         due.is("CONTRACTS", x.count(7), 8);
-        due.says("WINDOWS, 16 at most, numbered from 0");
+        due.says("One more WINDOW: its number.");
         for (int i = 0; i < 16; i++) due.is("window", x.window(0, 1, 0, 0, 0, 1), i);
+        due.says("WINDOWS, 16 at most, numbered from 0");
         due.is("a window too many", x.window(0, 1, 0, 0, 0, 1), FULL);
         due.is("WINDOWS", x.count(8), 16);
         due.says("One more number waits: how many. FULL: 30 wait.");
@@ -337,6 +339,7 @@ public final class RefusalEdgeTest {
         edges.refused(FULL, Skies::full, "tell", 5);
         due.says("The numbers that wait (none do then, with NO, too)");
         RockTugs x = new RockTugs();
+        due.says("NO: there was no TOUR.");
         due.is("NO without numbers", x.check(), NO);
         for (int i = 0; i < 30; i++) x.tell(0);
         due.is("NO", x.check(), NO);
@@ -357,7 +360,7 @@ public final class RefusalEdgeTest {
     }
 
     private static void sheets() {
-        due.says("BAD: sheet, n above 40; SIZE.");
+        due.says("FINDINGS: NOTHING: a SHEET is MISSING; INDEX: there is no such place; SIZE: a number of places is below 0.");
         edges.refused(BAD, Skies::full, "sheet", 2, -1);
         edges.refused(BAD, Skies::full, "sheet", -1, -1);
         edges.refused(BAD, Skies::full, "sheet", 2, 41);

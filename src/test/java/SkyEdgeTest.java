@@ -18,6 +18,7 @@ public final class SkyEdgeTest {
         pulledByPlaces();
         fourthSun();
         rockAtFirst();
+        toldOfARock();
         kinds();
         stocks();
         laid();
@@ -244,6 +245,17 @@ public final class SkyEdgeTest {
     }
 
     private static void pullCut() {
+        due.says("All numbers are whole; / cuts towards 0.");
+        for (int sign : SIGNS) {
+            // 1 * 1000 * 7 / 49 = 142.8..; 1 * 1000 * 1500 / 2250000 = 0.6..
+            RockTugs x = new RockTugs();
+            x.sun(sign * 7, 0, 1);
+            x.rock(0, 0, 0, 1, 0);
+            x.rock(0, -sign * 1493, 0, 1, 0);
+            x.run(1);
+            due.is("cut", x.told(0, 3), sign * 142);
+            due.is("cut", x.told(1, 3), 0);
+        }
         due.says("u gets PULL * 1000 * dx / (d * d) more, v likewise by dy (dx, dy: the SUN's PLACE less the body's).");
         for (int sx : SIGNS) {
             for (int sy : SIGNS) {
@@ -307,7 +319,7 @@ public final class SkyEdgeTest {
     }
 
     private static void fourthSun() {
-        due.says("SUNS, 3 at most");
+        due.says("One more SUN: its number. BAD; FULL.");
         RockTugs x = new RockTugs();
         for (int i = 0; i < 3; i++) x.sun(0, 100, 0);
         due.is("FULL", x.sun(100, 0, 999), RockTugs.FULL);
@@ -328,6 +340,29 @@ public final class SkyEdgeTest {
             due.is("LEARNT", x.learnt(i, 0), 1);
             due.is("LEARNT", x.learnt(i, 1), 99999);
         }
+    }
+
+    private static void toldOfARock() {
+        due.says("Of a ROCK: what 0 KIND, 1 x, 2 y, 3 u, 4 v, 5 TONS, 6 SPIN, 7 WATER, 8 METAL, 9 WORTH, 10 its OWNER (NONE), 11, 12 REST. BAD.");
+        RockTugs x = new RockTugs();
+        x.rock(0, 0, 0, 1, 0);
+        x.rock(2, 101, -202, 3001, -9);
+        x.tug(0, 0, 0, 0);
+        x.tug(0, 0, 0, 99);
+        x.moor(1, 1);
+        Due.order(x, 1, "claim burn 1,-2 wait");
+        due.is("no OWNER yet", x.told(1, 10), NONE);
+        x.run(3);
+        x.speed(1, 303, -404);
+        x.stock(1, 0, 505);
+        x.stock(1, 1, 606);
+        x.stock(1, 2, 707);
+        int[] want = {2, 101, -202, 303, -404, 3001, -9, 505, 606, 707, 1, 1000, -2000};
+        for (int what = 0; what < want.length; what++) due.is("told " + what, x.told(1, what), want[what]);
+        due.is("what -1", x.told(1, -1), RockTugs.BAD);
+        due.is("what 13", x.told(1, 13), RockTugs.BAD);
+        due.says("NONE: there is none.");
+        due.is("no OWNER", x.told(0, 10), NONE);
     }
 
     private static void kinds() {
