@@ -14,6 +14,7 @@ public final class ImageEdgeTest {
         ofAnEmptySky();
         ofTheFirstAndTheLastDay();
         eachThingByItself();
+        eachInItsPlace();
         whatIsOnItsWay();
         whatItLeavesOut();
         latestTour();
@@ -150,7 +151,7 @@ public final class ImageEdgeTest {
         RockTugs y = new RockTugs();
         y.keep();
         y.rock(1, 9, 9, 9, 9);
-        y.stock(0, 0, 9);
+        y.stock(0, 0, 99);
         y.stock(0, 1, 9);
         y.stock(0, 2, 9);
         y.speed(0, 9, 9);
@@ -161,8 +162,23 @@ public final class ImageEdgeTest {
         Due.order(y, 0, "aim 5 claim still burn 1,1 dig make");
         y.run(9);
         y.rock(3, 0, 0, 1, 0);
-        y.contract(0, 1, 1, 900, 5);
+        y.contract(0, 99, 1, 900, 5);
+        Due.program(y, 1, "free until k give");
+        y.rule(0, 99999);
+        y.send(0, 1);
+        y.run(2);
+        y.moor(0, 1);
+        y.run(1);
         due.is("an OWNER", y.told(0, 10), 0);
+        due.is("tons", y.about(0, 0), 15);
+        y.tug(2, 0, 0, 0);
+        y.rock(2, 0, 0, 1, 0);
+        y.stock(2, 1, 50);
+        y.moor(1, 2);
+        Due.program(y, 1, "dig");
+        y.send(1, 1);
+        y.run(2);
+        due.is("METAL", y.has(1, 7), 20);
         y.back();
         due.is("rock", y.rock(0, 0, 0, 1, 0), 0);
         due.is("tug", y.tug(0, 0, 0, 0), 0);
@@ -174,6 +190,12 @@ public final class ImageEdgeTest {
         due.is("DARK", y.dark(0, 0), 0);
         due.is("LEARNT", y.learnt(0, 0), 1);
         due.is("LEARNT", y.learnt(0, 1), 99999);
+        y.rock(3, 0, 0, 1, 0);
+        due.is("tug", y.tug(0, 0, 0, 0), 1);
+        for (int what = 0; what < tug.length; what++) due.is("has " + what, y.has(1, what), tug[what]);
+        due.is("contract", y.contract(0, 1, 1, 900, 5), 0);
+        due.is("tons", y.about(0, 0), 0);
+        due.is("MET", y.about(0, 1), NONE);
         due.is("the other object", x.count(11), 14);
     }
 
@@ -221,6 +243,73 @@ public final class ImageEdgeTest {
                 return x;
             }, ImageEdgeTest::kept);
         }
+    }
+
+    /** A sky with two of each that can be told by what they do, the image of which is kept. */
+    private static RockTugs pairs() {
+        RockTugs x = new RockTugs();
+        x.sun(100, 0, 10);
+        x.sun(0, 200, 20);
+        x.rock(2, 0, 0, 1, 17);
+        x.rock(3, 0, 0, 1, 0);
+        x.rock(0, 5000, 0, 1, 0);
+        x.stock(0, 1, 50);
+        x.stock(1, 2, 5);
+        x.stock(2, 2, 6);
+        x.tug(1, 0, 0, 50);
+        x.tug(1, 0, 0, 50);
+        x.moor(0, 0);
+        x.dark(1, 1);
+        x.contract(1, 9, 1, 70, 5);
+        x.contract(1, 3, 1, 80, 6);
+        x.window(0, 1, 3, 5, 2, 4);
+        x.window(1, 2, 8, 9, 3, 5);
+        Due.program(x, 0, "aim 2 dig dig free until k give until 0");
+        x.send(0, 0);
+        x.run(4);
+        x.keep();
+        return x;
+    }
+
+    /** Others of each come to their places, by an image of an empty sky first. */
+    private static void eachInItsPlace() {
+        due.says("all can become as it is (again and again)");
+        edges.same("back to its own", () -> {
+            RockTugs x = pairs();
+            x.moor(0, 1);
+            x.run(2);
+            due.is("tons", x.about(0, 0), 9);
+            due.is("METAL", x.has(0, 7), 0);
+            x.dark(1, 0);
+            Due.program(x, 1, "aim 5 free until k still burn 1,1");
+            x.rule(0, 99999);
+            x.send(0, 1);
+            x.run(2);
+            due.is("AIMS elsewhere", x.has(0, 11), 5);
+            x.moor(0, 0);
+            x.run(2);
+            due.is("less SPIN", x.told(0, 6), 12);
+            x.shut();
+            x.window(2, 1, 1, 1, 1, 1);
+            x.window(2, 0, 2, 2, 2, 2);
+            x.back();
+            return x;
+        }, ImageEdgeTest::pairs);
+        RockTugs x = pairs();
+        due.is("METAL is there to be kept", x.has(0, 7), 10);
+        due.is("AIMS", x.has(0, 11), 2);
+        due.is("DARK", x.dark(1, 1), 1);
+        x.shut();
+        x.window(2, 1, 1, 1, 1, 1);
+        x.window(2, 0, 2, 2, 2, 2);
+        x.back();
+        int[] rows = {0, 3, 7, 7, 1, 8, 13, 4};
+        due.is("both WINDOWS", x.tour(0, 0, 9, 99, 9), 11);
+        for (int v : rows) x.tell(v);
+        due.is("as they were", x.check(), 0);
+        due.is("the last DAY of both", x.tour(0, 5, 9, 99, 9), 11);
+        due.is("closed", x.tour(0, 6, 9, 99, 9), 0);
+        due.is("the FUEL of both", x.tour(0, 5, 4, 99, 9), 5);
     }
 
     private static void whatIsOnItsWay() {

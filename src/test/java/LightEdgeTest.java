@@ -12,6 +12,7 @@ public final class LightEdgeTest {
         ordersFull();
         reportsOnTheirDay();
         reportsOfADay();
+        reportsOfEach();
         reportsFull();
         reportsOvertaken();
         darkTugs();
@@ -205,6 +206,28 @@ public final class LightEdgeTest {
         due.is("it was sent from 1000 where its ROCK came", y.known(0, 5), NONE);
         y.run(1);
         due.is("a DAY later", y.known(0, 0), 1000);
+    }
+
+    /** Each TUG sends its own, in one DAY and on the way together. */
+    private static void reportsOfEach() {
+        due.says("Each TUG that is not DARK sends a REPORT");
+        RockTugs x = new RockTugs();
+        for (int i = 0; i < 4; i++) x.tug(i, 1000 * i, -10 * i, 50 + i);
+        x.dark(2, 1);
+        x.run(1);
+        due.is("three", x.count(5), 3);
+        x.run(5);
+        for (int i = 0; i < 4; i++) {
+            due.is("x of " + i, x.known(i, 0), i == 2 ? NONE : 1000 * i);
+            due.is("y of " + i, x.known(i, 1), i == 2 ? NONE : -10 * i);
+            due.is("FUEL of " + i, x.known(i, 4), i == 2 ? NONE : 50 + i);
+            due.is("DAY of " + i, x.known(i, 5), i == 2 ? NONE : 4 - i);
+        }
+        x.dark(2, 0);
+        x.dark(0, 1);
+        x.run(7);
+        int[] days = {5, 10, 9, 8};
+        for (int i = 0; i < 4; i++) due.is("DAY of " + i, x.known(i, 5), days[i]);
     }
 
     private static void reportsFull() {

@@ -9,6 +9,8 @@ public final class ProgramEdgeTest {
         bytesOfTheTape();
         tapeFull();
         tapeUsedUp();
+        emptyBehindAFault();
+        textBehindText();
         oneOrMore();
         wordsOfS();
         numbers();
@@ -127,6 +129,45 @@ public final class ProgramEdgeTest {
         }
     }
 
+    private static void emptyBehindAFault() {
+        due.says("-100 less the place of its fault: it is empty then.");
+        String[] texts = {"wait wait ?", "wait if 1{wait", "aim 1 burn 1,1,", "until 1 2", "", "?", "if 1{wait}else{"};
+        int[] places = {10, 14, 14, 8, 0, 0, 15};
+        for (int i = 0; i < texts.length; i++) {
+            RockTugs x = new RockTugs();
+            x.tug(0, 0, 0, 9);
+            Due.program(x, 1, "wait");
+            x.send(0, 1);
+            due.is("a fault in " + texts[i], Due.program(x, 1, texts[i]), -100 - places[i]);
+            due.is("it is empty", x.count(3), 0);
+            due.is("it is empty", x.send(0, 1), RockTugs.NO);
+            x.run(2);
+            due.is("an ORDER for it brings none", x.has(0, 10), NONE);
+            due.is("AIM stays", x.has(0, 11), 0);
+            due.is("written again", Due.program(x, 1, "wait"), 1);
+            due.is("it is not empty", x.count(3), 1);
+        }
+    }
+
+    /** What stood on THE TAPE ahead of a TEXT says nothing of it. */
+    private static void textBehindText() {
+        due.says("an act that reads it uses it up, whatever it answers");
+        String[] heads = {"wait", "wait wait", "wait x", "aim 1", "aim 12 34", "if 1{", "if 1{if 1{if 1{if 1{", "until ((((((((", "until --------", "until -(!(-(", "wait }", "wait ;", "until 1", "aim"};
+        for (String head : heads) {
+            RockTugs x = new RockTugs();
+            Due.program(x, 0, head);
+            due.is("wait behind " + head, Due.program(x, 0, "wait"), 1);
+            Due.program(x, 0, head);
+            due.is("a number behind " + head, Due.program(x, 0, "1"), -100);
+            Due.program(x, 0, head);
+            due.is("all open behind " + head, Due.program(x, 0, "if 1{if 1{if 1{if 1{until -(-(-(-(!(!(!(!(1))))))))}}}}"), 5);
+            Due.program(x, 0, head);
+            due.is("too many open behind " + head, Due.program(x, 0, "if 1{if 1{if 1{if 1{if 1{"), -124);
+            Due.program(x, 0, head);
+            due.is("the end behind " + head, Due.program(x, 0, ""), -100);
+        }
+    }
+
     private static void oneOrMore() {
         due.says("one or more S. S:");
         fault("", 0);
@@ -152,6 +193,8 @@ public final class ProgramEdgeTest {
             fault("a" + word, 0);
             fault(word.substring(1), 0);
             fault(word.substring(0, word.length() - 1), 0);
+            fault("q" + word.substring(1), 0);
+            fault(word.substring(0, word.length() - 1) + "q", 0);
             fault(word + " 1", word.length() + 1);
             fault(word + "(", word.length());
             fault(word.toUpperCase(java.util.Locale.ROOT), 0);
@@ -163,12 +206,18 @@ public final class ProgramEdgeTest {
             fault(word + " dig", word.length() + 1);
             fault(word + " ,", word.length() + 1);
             fault(word + "s 1", 0);
+            fault("q" + word.substring(1) + " 1", 0);
+            fault(word.substring(0, word.length() - 1) + "q 1", 0);
             fault(word + "1", word.length());
         }
         fault("else", 0);
         fault("dig else", 4);
         good("burn 1,2", 1);
         good("burn 1|0&1<2+3*4,-(5)", 1);
+        good("burn -(5),1|0&1<2+3*4", 1);
+        good("until 1|0&1<2+3*4", 1);
+        good("if 1|0&1<2+3*4{dig}", 2);
+        good("while 1|0&1<2+3*4{dig}", 2);
         fault("burn 1", 6);
         fault("burn 1,", 7);
         fault("burn ,1", 5);
@@ -596,6 +645,24 @@ public final class ProgramEdgeTest {
         x.run(1);
         due.is("DAY 10", x.has(0, 5), 21);
         due.is("TODAY", x.count(11), 11);
+        RockTugs docked = new RockTugs();
+        docked.rock(0, 0, 0, 5, 0);
+        docked.tug(0, 0, 0, 5);
+        docked.moor(0, 0);
+        Due.order(docked, 0, "if k=1{aim 5}");
+        docked.run(1);
+        due.is("1 if DOCKED", docked.has(0, 11), 5);
+        due.says("PLACE and SPEED of the ROCK that it AIMS at less its own");
+        RockTugs moves = new RockTugs();
+        moves.rock(0, 100, 200, 5, 0);
+        moves.speed(0, 33, -44);
+        moves.tug(0, 7, 9, 99);
+        Due.program(moves, 0, "burn 3,-4 burn u-2,v-2 burn x,y");
+        moves.send(0, 0);
+        moves.run(3);
+        // u is 33 less 30, v -44 less -40
+        due.is("u less its own", moves.has(0, 3), 30 + 10);
+        due.is("v less its own", moves.has(0, 4), -40 - 60);
         RockTugs y = new RockTugs();
         y.tug(0, 0, 0, 5);
         Due.order(y, 0, "if f=5{aim 5}if t=1{aim 6}");

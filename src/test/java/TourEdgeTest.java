@@ -16,6 +16,7 @@ public final class TourEdgeTest {
         noneTwice();
         whereTheOneAheadEnds();
         worthEachOnce();
+        worthOfAWayBack();
         worthAtItsEnds();
         mostWorth();
         endsFirst();
@@ -272,6 +273,32 @@ public final class TourEdgeTest {
         due.is("from the other one", back.tour(2, 0, 0, 2000, 99), 500);
     }
 
+    /** It must come back to where it was to go on: that adds nothing and takes nothing. */
+    private static void worthOfAWayBack() {
+        due.says("(each once; not that at which it begins)");
+        RockTugs x = sky();
+        x.window(1, 2, 0, 999, 0, 1);
+        x.window(2, 1, 0, 999, 0, 1);
+        x.window(1, 3, 0, 999, 0, 1);
+        x.window(3, 2, 0, 999, 0, 1);
+        x.window(2, 4, 4, 4, 0, 1);
+        due.is("back to where it begins", x.tour(1, 0, 0, 3, 99), 6);
+        rows(x, 2, 0, 1, 0, 3, 1, 2, 0);
+        RockTugs y = sky();
+        y.window(1, 2, 0, 999, 0, 1);
+        y.window(2, 1, 0, 999, 0, 1);
+        y.window(1, 3, 0, 999, 0, 1);
+        due.is("back to where it begins", y.tour(1, 0, 0, 2000, 99), 6);
+        rows(y, 0, 0, 1, 0, 1, 1, 2, 0, 2, 2, 3, 0);
+        RockTugs z = sky();
+        z.window(1, 2, 0, 999, 0, 1);
+        z.window(2, 3, 0, 999, 0, 1);
+        z.window(3, 2, 0, 999, 0, 1);
+        z.window(2, 4, 0, 999, 0, 1);
+        due.is("twice at 2", z.tour(1, 0, 0, 2000, 99), 2 + 4 + 8);
+        rows(z, 0, 0, 1, 0, 1, 1, 2, 0, 2, 2, 3, 0, 3, 3, 4, 0);
+    }
+
     private static void worthAtItsEnds() {
         due.says("a WORTH 0 .. 999 (0 at first)");
         RockTugs x = new RockTugs();
@@ -368,6 +395,14 @@ public final class TourEdgeTest {
         x.stock(2, 2, 0);
         x.window(1, 2, 0, 999, 0, 1);
         due.is("nothing is won", x.tour(1, 0, 0, 2000, 1), 0);
+        rows(x);
+        x.tour(3, 999, 0, 2000, 1);
+        due.is("nothing is won, whatever was sought ahead", x.tour(1, 0, 0, 2000, 1), 0);
+        rows(x);
+        x.stock(2, 2, 7);
+        due.is("something is won", x.tour(1, 900, 0, 2000, 1), 7);
+        x.stock(2, 2, 0);
+        due.is("nothing is won, whatever was sought ahead", x.tour(1, 0, 0, 2000, 1), 0);
         rows(x);
         RockTugs y = sky();
         due.is("no WINDOWS", y.tour(7, 999, 0, 999, 1), 0);
