@@ -37,6 +37,7 @@ public final class ActEdgeTest {
         stillFuel();
         shed();
         cantBeDone();
+        eachDoesItsOwn();
         due.end();
     }
 
@@ -454,7 +455,7 @@ public final class ActEdgeTest {
         all.run(1);
         for (int i = 0; i < 4; i++) due.is("all at a STATION", all.has(i, 9), 0);
         due.says("and AIMS at a ROCK");
-        for (int aim = 0; aim < 4; aim++) {
+        for (int aim : new int[] {0, 1, 2, 3, 7, 8, 99999}) {
             RockTugs x = four("aim " + aim + " dock");
             for (int i = 0; i < 3; i++) x.rock(0, i, 0, 1, 0);
             x.run(1);
@@ -797,6 +798,77 @@ public final class ActEdgeTest {
         RockTugs free = wheel(10, 0, "free shed");
         free.run(2);
         due.is("FREE: nothing", free.has(0, 8), 10);
+    }
+
+    /** A MINT with 4 WATER, 5 METAL and a WHEEL of 3 at a ROCK of a KIND, with SPIN and STOCKS, that has a text for the next DAY. */
+    private static RockTugs laden(int kind, String text) {
+        RockTugs x = new RockTugs();
+        x.rock(1, 0, 0, 1, 3);
+        x.rock(2, 0, 0, 1, 0);
+        x.rock(kind, 0, 0, 1000, 9);
+        x.stock(0, 0, 4);
+        x.stock(1, 1, 5);
+        x.stock(2, 0, 50);
+        x.stock(2, 1, 60);
+        x.tug(3, 0, 0, 501);
+        x.moor(0, 0);
+        Due.order(x, 0, "dig still free");
+        x.run(3);
+        x.moor(0, 1);
+        Due.order(x, 0, "dig free");
+        x.run(2);
+        x.moor(0, 2);
+        x.contract(0, 3, 2, 3000, 1);
+        Due.order(x, 0, text);
+        return x;
+    }
+
+    /** FUEL, WATER, METAL, WHEEL, where it is DOCKED, burnt, made; u, v, SPIN, WATER, METAL, REST of the ROCK; CLAIMS; tons of the CONTRACT. */
+    private static int[] all(RockTugs x) {
+        return new int[] {x.has(0, 5), x.has(0, 6), x.has(0, 7), x.has(0, 8), x.has(0, 9), x.has(0, 12), x.has(0, 13), x.told(2, 3), x.told(2, 4), x.told(2, 6), x.told(2, 7), x.told(2, 8), x.told(2, 11),
+            x.told(2, 12), x.count(6), Math.max(0, x.about(0, 0))};
+    }
+
+    /** Which of all that is changed by how much, for each act at each KIND where it does something. */
+    private static void eachDoesItsOwn() {
+        due.says("What takes the DAY:");
+        String[] acts = {"burn 1,-2", "free", "dig", "make", "give", "still", "shed", "claim", "wait", "dock", "until 0"};
+        for (String act : acts) {
+            for (int kind = 0; kind < 4; kind++) {
+                RockTugs x = laden(kind, act);
+                int[] want = all(x);
+                due.is("FUEL at first", want[0], 500);
+                switch (act) {
+                    case "burn 1,-2": add(want, 0, -3, 5, 3, 7, 1, 8, -2); break;
+                    case "free": add(want, 4, NONE - 2); break;
+                    case "dig":
+                        if (kind == 1) add(want, 1, 11, 10, -11);
+                        if (kind == 2) add(want, 2, 11, 11, -11);
+                        break;
+                    case "make": add(want, 0, 4, 1, -4, 6, 4); break;
+                    case "give":
+                        if (kind == 3) add(want, 1, -4, 2, -5, 10, 1, 11, 5, 15, 3);
+                        break;
+                    case "still": add(want, 0, -1, 3, 5, 5, 1, 9, -5); break;
+                    case "shed":
+                        if (kind == 3) add(want, 3, -3, 9, 3);
+                        break;
+                    case "claim":
+                        if (kind != 3) add(want, 14, 1);
+                        break;
+                    default:
+                }
+                x.run(1);
+                int[] got = all(x);
+                for (int i = 0; i < want.length; i++) due.is(act + " at kind " + kind + ": " + i, got[i], want[i]);
+                due.is("AIMS stay", x.has(0, 11), 0);
+            }
+        }
+    }
+
+    /** Adds by pairs of a place and how much. */
+    private static void add(int[] all, int... pairs) {
+        for (int i = 0; i < pairs.length; i += 2) all[pairs[i]] += pairs[i + 1];
     }
 
     private static void cantBeDone() {

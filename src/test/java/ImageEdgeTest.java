@@ -179,6 +179,11 @@ public final class ImageEdgeTest {
         y.send(1, 1);
         y.run(2);
         due.is("METAL", y.has(1, 7), 20);
+        y.tug(2, 0, 0, 0);
+        y.moor(2, 0);
+        y.send(2, 1);
+        y.run(2);
+        due.is("WATER", y.has(2, 6), 20);
         y.back();
         due.is("rock", y.rock(0, 0, 0, 1, 0), 0);
         due.is("tug", y.tug(0, 0, 0, 0), 0);
@@ -191,8 +196,10 @@ public final class ImageEdgeTest {
         due.is("LEARNT", y.learnt(0, 0), 1);
         due.is("LEARNT", y.learnt(0, 1), 99999);
         y.rock(3, 0, 0, 1, 0);
-        due.is("tug", y.tug(0, 0, 0, 0), 1);
-        for (int what = 0; what < tug.length; what++) due.is("has " + what, y.has(1, what), tug[what]);
+        for (int i = 1; i < 3; i++) {
+            due.is("tug", y.tug(0, 0, 0, 0), i);
+            for (int what = 0; what < tug.length; what++) due.is("has " + what, y.has(i, what), tug[what]);
+        }
         due.is("contract", y.contract(0, 1, 1, 900, 5), 0);
         due.is("tons", y.about(0, 0), 0);
         due.is("MET", y.about(0, 1), NONE);
@@ -310,6 +317,14 @@ public final class ImageEdgeTest {
         due.is("the last DAY of both", x.tour(0, 5, 9, 99, 9), 11);
         due.is("closed", x.tour(0, 6, 9, 99, 9), 0);
         due.is("the FUEL of both", x.tour(0, 5, 4, 99, 9), 5);
+        x.moor(0, 1);
+        x.run(2);
+        int[] tons = {9, 1}, met = {4, NONE};
+        for (int i = 0; i < 2; i++) {
+            due.is("what each lacks, of " + i, x.about(i, 0), tons[i]);
+            due.is("MET of " + i, x.about(i, 1), met[i]);
+        }
+        due.is("paid", x.paid(), 5);
     }
 
     private static void whatIsOnItsWay() {

@@ -337,6 +337,18 @@ public final class KnownEdgeTest {
 
     private static void missIsDrift() {
         due.says("DRIFT: DAYS in which no TUG does anything.");
+        // a SUN pulls in it: ROCK 0 comes to x 100, to 200, and back
+        RockTugs sun = new RockTugs();
+        sun.sun(100, 0, 10);
+        sun.rock(0, 0, 0, 1, 0);
+        sun.rock(0, 1000100, 0, 1, 0);
+        int[] least = {1000100, 1000000, 999900, 999900, 999900};
+        int[] days = {0, 1, 2, 2, 2};
+        for (int n = 0; n < 5; n++) {
+            due.is("FAR in " + n, sun.miss(0, 1, n, 0), least[n]);
+            due.is("FAR in " + n, sun.miss(1, 0, n, 0), least[n]);
+            due.is("DAYS in " + n, sun.miss(0, 1, n, 1), days[n]);
+        }
         // what is foretold comes, if no TUG does anything
         RockTugs x = new RockTugs();
         x.sun(2000, 2000, 30);
@@ -352,19 +364,19 @@ public final class KnownEdgeTest {
         x.keep();
         for (int[] pair : pairs) {
             x.back();
-            int least = x.miss(pair[0], pair[1], 0, 0), first = 0;
+            int nearest = x.miss(pair[0], pair[1], 0, 0), first = 0;
             for (int i = 1; i <= 30; i++) {
                 x.run(1);
                 int far = x.miss(pair[0], pair[1], 0, 0);
-                if (far < least) {
-                    least = far;
+                if (far < nearest) {
+                    nearest = far;
                     first = i;
                 }
             }
             x.back();
             x.send(0, 0);
             x.send(1, 0);
-            due.is("FAR", x.miss(pair[0], pair[1], 30, 0), least);
+            due.is("FAR", x.miss(pair[0], pair[1], 30, 0), nearest);
             due.is("DAYS", x.miss(pair[0], pair[1], 30, 1), first);
             due.is("no DAY went by", x.count(11), 0);
             due.is("no ORDER came", x.count(4), 2);

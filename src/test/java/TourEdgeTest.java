@@ -394,8 +394,12 @@ public final class TourEdgeTest {
         RockTugs x = sky();
         x.stock(2, 2, 0);
         x.window(1, 2, 0, 999, 0, 1);
-        due.is("nothing is won", x.tour(1, 0, 0, 2000, 1), 0);
-        rows(x);
+        for (int c : new int[] {0, 1, 999}) {
+            for (int t : new int[] {0, 1, 999}) {
+                due.is("nothing is won", x.tour(1, t, c, 2000, 1), 0);
+                rows(x);
+            }
+        }
         x.tour(3, 999, 0, 2000, 1);
         due.is("nothing is won, whatever was sought ahead", x.tour(1, 0, 0, 2000, 1), 0);
         rows(x);
