@@ -567,10 +567,10 @@ public final class RockTugs {
         }
 
         int farFrom(Body other) {
-            return farFrom(other.x, other.y);
+            return farFromPlace(other.x, other.y);
         }
 
-        int farFrom(int px, int py) {
+        int farFromPlace(int px, int py) {
             int dx = Math.abs(px - x);
             int dy = Math.abs(py - y);
             return Math.max(dx, dy) + Math.min(dx, dy) / 2;
@@ -587,7 +587,7 @@ public final class RockTugs {
         }
 
         void draw(Body body) {
-            long far = body.farFrom(x, y);
+            long far = body.farFromPlace(x, y);
             if (far == 0) return;
             long strength = pull * 1000L;
             body.push(strength * (x - body.x) / (far * far), strength * (y - body.y) / (far * far));
@@ -805,7 +805,7 @@ public final class RockTugs {
         }
 
         Body bodyOf(Tug of) {
-            return isDocked(of) ? rock[of.dock].body : of.free;
+            return isRock(of.dock) ? rock[of.dock].body : of.free;
         }
 
         boolean hasBerth(int number) {
@@ -834,7 +834,7 @@ public final class RockTugs {
         /** When comes what goes today between a body and PLACE 0, 0. */
         int arrival(Body body) {
             int light = Math.max(1, rules[LIGHT]);
-            return today + 1 + body.farFrom(0, 0) / light;
+            return today + 1 + body.farFromPlace(0, 0) / light;
         }
 
         /** Part (a) of a DAY. */

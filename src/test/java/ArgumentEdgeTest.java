@@ -30,7 +30,7 @@ public final class ArgumentEdgeTest {
     }
 
     private static void sky() {
-        due.says("PLACES x, y and SPEEDS u, v, each -9999999 .. 9999999");
+        due.says("THE SKY is flat: PLACES x, y and SPEEDS u, v, each -9999999 .. 9999999");
         for (int at = 0; at < 2; at++) edges.range(Skies::busy, at, -EDGE, EDGE, "sun", 0, 0, 5);
         for (int at = 1; at < 3; at++) edges.range(Skies::busy, at, -EDGE, EDGE, "rock", 0, 0, 0, 5, 0);
         for (int at = 1; at < 3; at++) edges.range(Skies::busy, at, -EDGE, EDGE, "speed", 0, 0, 0);

@@ -7,12 +7,14 @@ import java.util.regex.Matcher;
 import java.util.regex.Pattern;
 
 /**
- * Every sentence that a test says it holds to stands in the document, and every promise has one.
- * With an argument it prints what of the document no test names.
+ * Every sentence that a test says it holds to stands in the document, and there is no sentence of
+ * its Terms and promises that no test names. (The face is held by FaceTest.)
  */
 public final class DocTest {
     private static final Due due = new Due("DocTest");
     private static final Pattern SAYS = Pattern.compile("due\\.says\\(\"((?:[^\"\\\\]|\\\\.)*)\"\\)");
+    /** Headings, and what says nothing that a call could break. */
+    private static final String[] NO_SENTENCES = {"^.*?## Terms", "======== \\d", "\\([a-d]\\) ", "Ahead of the calls .*?(?=## Promise 1:)", "## Promise \\d+: [^`]*`[^`]*`:", "## Not promised.*$"};
 
     public static void main(String[] args) throws IOException {
         Path file = Path.of("../shared/DOC.md");
@@ -26,7 +28,11 @@ public final class DocTest {
             for (Path test : tests) names(test, text, named);
         }
         promises(text, named);
-        if (args.length > 0) printUnnamed(text, named);
+        for (String pattern : NO_SENTENCES) {
+            Matcher part = Pattern.compile(pattern).matcher(text);
+            while (part.find()) Arrays.fill(named, part.start(), part.end(), true);
+        }
+        allNamed(text, named);
         due.end();
     }
 
@@ -52,14 +58,14 @@ public final class DocTest {
         due.is("promises", many, 39);
     }
 
-    private static void printUnnamed(String text, boolean[] named) {
+    private static void allNamed(String text, boolean[] named) {
         StringBuilder part = new StringBuilder();
         for (int i = 0; i <= text.length(); i++) {
             if (i < text.length() && !named[i]) {
                 part.append(text.charAt(i));
                 continue;
             }
-            if (part.toString().trim().length() > 3) System.out.println("  not named: " + part.toString().trim());
+            if (Pattern.compile("\\w").matcher(part).find()) due.is("tests that name \"" + part.toString().trim() + "\"", 0, 1);
             part.setLength(0);
         }
     }

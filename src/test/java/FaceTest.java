@@ -26,6 +26,7 @@ public final class FaceTest {
         methods();
         constants();
         nested();
+        document();
         source();
         room();
         due.end();
@@ -93,6 +94,34 @@ public final class FaceTest {
             }
             yes(c.getName() + " has some twenty fields", fields <= 20);
         }
+    }
+
+    /** The source has the lines of the document's face, in their order, and what it says ahead of some calls. */
+    private static void document() throws IOException {
+        Path file = Path.of("../shared/DOC.md");
+        if (!Files.isReadable(file)) return;
+        String doc = Files.readString(file);
+        String code = Files.readString(Path.of("src/main/java/RockTugs.java"));
+        String face = doc.substring(doc.indexOf("```java") + 7, doc.indexOf("```\n\n## Terms"));
+        int lines = 0;
+        int at = 0;
+        for (String line : face.split("\n")) {
+            if (!line.contains("(") && !line.contains("=")) continue;
+            String wanted = line.strip();
+            if (wanted.endsWith(");")) wanted = wanted.substring(0, wanted.length() - 1) + " {";
+            int next = code.indexOf(wanted, at);
+            yes("the source has, in its order: " + wanted, next >= 0);
+            at = Math.max(at, next);
+            lines++;
+        }
+        due.is("lines of the face", lines, 40);
+        Matcher ahead = Pattern.compile("Ahead of the calls `(\\w+)`.* the interface says: (---- .*)\\.").matcher(doc);
+        int many = 0;
+        for (; ahead.find(); many++) {
+            Matcher call = Pattern.compile(Pattern.quote("// " + ahead.group(2)) + "\\s+public int " + ahead.group(1) + "\\(").matcher(code);
+            yes("ahead of " + ahead.group(1) + ": " + ahead.group(2), call.find());
+        }
+        due.is("lines ahead of calls", many, 6);
     }
 
     /** Words and signs that LANGUAGE.md does not have, in the code without its comments and texts. */

@@ -26,7 +26,8 @@ public final class ModelTest {
     private boolean wrong;
 
     private ModelTest(long seed) {
-        random = new Random(seed);
+        // seeds that lie side by side would draw alike at first
+        random = new Random(seed * 0x9E3779B97F4A7C15L);
     }
 
     public static void main(String[] args) {
@@ -39,6 +40,7 @@ public final class ModelTest {
             ModelTest one = new ModelTest(seed);
             if (seed % 4 == 0) one.travel();
             else if (seed % 16 == 1) one.beWild();
+            else if (seed % 8 == 3) one.work();
             else one.live();
             answers += one.calls;
             if (!one.wrong) continue;
@@ -56,6 +58,54 @@ public final class ModelTest {
         int many = 100 + random.nextInt(200);
         for (int i = 0; i < many && !wrong; i++) any(NAMES[random.nextInt(NAMES.length)]);
         look();
+    }
+
+    /** TUGS that dig, bring, still and claim among few ROCKS side by side, by PROGRAMS that all stand. */
+    private void work() {
+        int[] kinds = {3, 1, 2, random.nextInt(4), random.nextInt(4)};
+        for (int kind : kinds) call("rock", kind, random.nextInt(60), random.nextInt(60), 1 + random.nextInt(500), random.nextInt(61) - 30);
+        for (int i = 0; i < 5; i++) {
+            call("stock", i, 0, random.nextInt(3) == 0 ? 9990 + random.nextInt(10) : random.nextInt(200));
+            call("stock", i, 1, random.nextInt(3) == 0 ? 9990 + random.nextInt(10) : random.nextInt(200));
+        }
+        for (int i = 0; i < 4; i++) {
+            call("tug", random.nextInt(4), random.nextInt(60), random.nextInt(60), random.nextInt(3) == 0 ? 990 + random.nextInt(10) : random.nextInt(60));
+            call("moor", i, random.nextInt(5));
+            order(i);
+        }
+        call("rule", 0, random.nextBoolean() ? 1 + random.nextInt(30) : 1000);
+        for (int i = 0; i < 90 && !wrong; i++) {
+            int tug = random.nextInt(4);
+            int today = model.call("count", 11);
+            switch (random.nextInt(16)) {
+                case 0: call("contract", random.nextInt(2), 1 + random.nextInt(20), 0, today + random.nextInt(40), random.nextInt(10000)); break;
+                case 1: call("contract", random.nextInt(2), 1 + random.nextInt(99), random.nextInt(5), today + random.nextInt(12), random.nextInt(10000)); break;
+                case 2: call("speed", random.nextInt(5), random.nextInt(31) - 15, random.nextInt(31) - 15); break;
+                case 3: any(random.nextBoolean() ? "keep" : "patch"); break;
+                case 4: call(random.nextInt(4) == 0 ? "back" : "paid"); break;
+                case 5: order(tug); break;
+                case 6: case 7: case 8: case 9: case 10: call("moor", tug, random.nextBoolean() ? 0 : 1 + random.nextInt(4)); break;
+                default: call("run", 1 + random.nextInt(4));
+            }
+            call("has", tug, 5 + random.nextInt(9));
+            call("told", random.nextInt(5), 6 + random.nextInt(7));
+            call("about", random.nextInt(1 + model.call("count", 7)), random.nextInt(3));
+        }
+        look();
+    }
+
+    /** Mostly: wherever it is moored, it does some acts there and is FREE again. */
+    private void order(int tug) {
+        String[] acts = {"dig", "dig", "give", "give", "make", "still", "still", "shed", "claim"};
+        String[] more = {"wait", "dock", "burn 0,0", "burn 1,-1", "burn -t,s", "until t/3*3=t", "if w+m>9{free aim 0 dock give}", "aim 0", "aim 3"};
+        StringBuilder text = new StringBuilder("while 1{until k");
+        for (int i = 2 + random.nextInt(4); i > 0; i--) text.append(' ').append(acts[random.nextInt(acts.length)]);
+        if (random.nextInt(3) == 0) text.append(' ').append(more[random.nextInt(more.length)]);
+        int program = random.nextInt(4);
+        call("trim", 0);
+        write(text.append(" free}").toString());
+        call("program", program);
+        call("send", tug, program);
     }
 
     /** Arguments from the ends of all ranges, of ints, too: no call throws, whatever it is given. */
@@ -262,13 +312,17 @@ public final class ModelTest {
         if (text.length() > 120) text = text.substring(0, 120);
         for (int i = random.nextInt(3) == 0 ? 1 + random.nextInt(2) : 0; i > 0; i--) text = spoilt(text);
         call("trim", 0);
-        byte[] bytes = new byte[120];
-        for (int i = 0; i < text.length(); i++) bytes[i] = (byte) text.charAt(i);
-        for (int i = 0; i < text.length(); i += 12) call("feed", four(bytes, i), four(bytes, i + 4), four(bytes, i + 8));
-        call("trim", text.length());
-        log.add("text \"" + text + "\"");
+        write(text);
         int s = call("program", in(0, 3));
         seen.merge(s > 0 ? "good text" : "faulty text", 1, Integer::sum);
+    }
+
+    private void write(String text) {
+        byte[] bytes = new byte[120];
+        for (int i = 0; i < text.length() && i < 120; i++) bytes[i] = (byte) text.charAt(i);
+        for (int i = 0; i < text.length() && i < 120; i += 12) call("feed", four(bytes, i), four(bytes, i + 4), four(bytes, i + 8));
+        call("trim", text.length());
+        log.add("text \"" + text + "\"");
     }
 
     private static int four(byte[] bytes, int at) {

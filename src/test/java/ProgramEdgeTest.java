@@ -117,7 +117,7 @@ public final class ProgramEdgeTest {
                 due.is("the same again finds none", x.program(0), -100);
             }
         }
-        due.says("PROGRAMS 0 .. 3");
+        due.says("PROGRAMS 0 .. 3 are TEXTS on THE TAPE");
         RockTugs x = new RockTugs();
         x.tug(0, 0, 0, 0);
         for (int i = 0; i < 4; i++) due.is("program " + i, Due.program(x, i, "aim " + (i + 5)), 1);

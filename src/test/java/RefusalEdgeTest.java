@@ -31,13 +31,16 @@ public final class RefusalEdgeTest {
         edges.refused(FULL, Skies::full, "sun", 0, 0, 0);
         edges.refused(BAD, Skies::full, "sun", 0, 0, 1000);
         edges.refused(BAD, Skies::full, "sun", Skies.EDGE + 1, 0, 0);
+        due.says("One more ROCK, with SPEED 0 and empty STOCKS: its number. BAD; FULL.");
         edges.refused(FULL, Skies::full, "rock", 0, 0, 0, 1, 0);
         edges.refused(BAD, Skies::full, "rock", 4, 0, 0, 1, 0);
         edges.refused(BAD, Skies::full, "rock", 0, 0, 0, 0, 0);
         edges.refused(BAD, Skies::full, "rock", 0, 0, 0, 1, 100);
+        due.says("One more TUG, FREE at a PLACE, with SPEED 0: its number. BAD; FULL.");
         edges.refused(FULL, Skies::full, "tug", 0, 0, 0, 0);
         edges.refused(BAD, Skies::full, "tug", -1, 0, 0, 0);
         edges.refused(BAD, Skies::full, "tug", 0, 0, 0, 1000);
+        due.says("BAD: rocks (the same, too), open, close (open not above it), fuel, days; FULL.");
         edges.refused(FULL, Skies::full, "window", 0, 1, 0, 0, 0, 1);
         edges.refused(BAD, Skies::full, "window", 0, 0, 0, 0, 0, 1);
         edges.refused(BAD, Skies::full, "window", 0, 1, 1, 0, 0, 1);
@@ -135,7 +138,7 @@ public final class RefusalEdgeTest {
         edges.refused(BAD, () -> rockOf(50), "weigh", 0, 51, 100000);
         edges.refused(BAD, () -> rockOf(50), "weigh", 0, 100000, 100000);
         edges.refused(BAD, () -> rockOf(50), "weigh", 0, 0, 0);
-        due.says("LEARNT is 1 .. 99999 at first, then what it was and low .. high have in common.");
+        due.says("WEIGHED is a ROCK as low .. high: LEARNT is 1 .. 99999 at first, then what it was and low .. high have in common.");
         RockTugs x = rockOf(50);
         due.is("low at first", x.learnt(0, 0), 1);
         due.is("high at first", x.learnt(0, 1), 99999);
